@@ -832,8 +832,7 @@ public final class SafePaths {
                     return below > 0 ? NOWHERE : folder.number;
                 }
                 Name part = ahead.remove(ahead.size() - 1);
-                Node next = below > 0 ? null : tree.childOf(folder, part);
-                int end = part.isUp() ? goUp() : goTo(next);
+                int end = part.isUp() ? goUp() : goTo(below > 0 ? null : tree.childOf(folder, part));
                 if (end != UNDER_WAY) {
                     return end;
                 }

@@ -5,6 +5,7 @@ public final class LookingTest {
     public static void main(String[] args) {
         newObject();
         rulesOfAnyNumber();
+        eachRuleAlone();
         find();
         node();
         name();
@@ -54,6 +55,22 @@ public final class LookingTest {
             due.is("rules " + rules + " have rule 32", x.take(Due.file(x, "a/b", 1, 1)), 5);
             due.is("rules " + rules + " have rules 2 and 16", x.take(Due.folder(x, "A", 0)), 4);
             due.is("rules " + rules + " have rule 4", x.take(Due.link(x, "l", "/")), 6);
+        }
+    }
+
+    private static void eachRuleAlone() {
+        for (int rules = 0; rules < 64; rules++) {
+            String told = "rules " + rules + ": ";
+            SafePaths x = new SafePaths(rules);
+            due.is(told + "path \\", Due.path(x, "\\"), (rules & 1) != 0 ? -1 : 0);
+            due.is(told + "path con", Due.path(x, "con") < 0 ? 1 : 0, (rules & 8) != 0 ? 1 : 0);
+            x.take(Due.folder(x, "a", 0));
+            int meeting = (rules & 2) == 0 ? 5 : (rules & 16) == 0 ? -12 : 4;
+            due.is(told + "folder A", x.take(Due.folder(x, "A", 0)), meeting);
+            int next = x.told(0);
+            due.is(told + "link out", x.take(Due.link(x, "l", "/")), (rules & 4) != 0 ? next : -18);
+            next = x.told(0);
+            due.is(told + "file n/f", x.take(Due.file(x, "n/f", 1, 1)), (rules & 32) != 0 ? next + 1 : -13);
         }
     }
 

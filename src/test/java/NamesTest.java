@@ -100,6 +100,8 @@ public final class NamesTest {
     private static void pathsOfOtherSystems() {
         for (String mark : new String[] {":", "*", "?", "\"", "<", ">", "|"}) {
             isPath(8, "ab" + mark + "c", -4);
+            isPath(8, mark + "ab", -4);
+            isPath(8, "ab" + mark, -4);
             isPath(55, "ab" + mark + "c", 0);
         }
         for (String bad : new String[] {"a.", "a ", "...", " ", "a/b ./c", "a /b"}) {
@@ -115,12 +117,11 @@ public final class NamesTest {
             isPath(8, word + " .x", 0);
             isPath(0, word, 0);
         }
-        for (String fine : new String[] {"com", "lpt", "com0", "lpt0", "com:"}) {
-            isPath(8, fine, fine.endsWith(":") ? -4 : 0);
-        }
-        for (String fine : new String[] {"com10", "con1", "coma", "co", "c", "comcon", "nuln", ".x", "a.b c", "\u00ff"}) {
+        for (String fine : new String[] {"com", "lpt", "com0", "lpt0", "com10", "con1", "coma", "co", "c", "nuln", "cxn",
+            "xon", "cox", "cpt1", "lom1", "lpm1", "onp", ".x", "a.b c", "\u00ff", "prnaux", "a.con", "con-.x"}) {
             isPath(8, fine, 0);
         }
+        isPath(8, "com:", -4);
     }
 
     private static void pathsTooLong() {

@@ -90,6 +90,9 @@ public final class TakingTest {
         due.holds("the names", (Due.nameOf(x, 4) + Due.nameOf(x, 5) + Due.nameOf(x, 6)).equals("abc"));
         due.is("made", x.told(5), 3);
         due.is("NOTED for folders on the way", x.told(7), 0);
+        x.take(Due.file(x, "f", 1, 1));
+        take(x, "n/f/x, by what is in n alone", Due.file(x, "n/f/x", 1, 1), 10);
+        take(x, "m/f, by what is in m alone", Due.folder(x, "m/f", 1), 12);
         SafePaths y = new SafePaths(31);
         take(y, "a/b without rule 32", Due.file(y, "a/b", 5, 6), -13);
         take(y, "folder a/b without rule 32", Due.folder(y, "a/b", 0), -13);
