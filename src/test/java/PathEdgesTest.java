@@ -1,4 +1,4 @@
-/** The edges that the document names of the DRAFT, PATHS and TARGETS: promises 2 to 6. Each test quotes its sentence. */
+/** The edges that the document names of the DRAFT, PATHS and TARGETS: promises 2 to 6. */
 public final class PathEdgesTest {
     private static final Due due = new Due();
     private static final String SIXTEEN = "0123456789abcdef";

@@ -1,4 +1,4 @@
-/** The edges that the document names of entries and of taking them: promises 7 to 11. Each test quotes its sentence. */
+/** The edges that the document names of entries and of taking them: promises 7 to 11. */
 public final class TakeEdgesTest {
     private static final Due due = new Due();
     private static final long GREATEST = 1L << 40;
